@@ -1,3 +1,4 @@
+import java.util.Arrays;
 import java.util.NoSuchElementException;
 
 /** An inn on a pin, as ../shared/DOC.md tells it; words in capitals are that document's terms. */
@@ -1494,6 +1495,11 @@ public final class PinInn {
 
     /** SEATS. */
     private static final class Seats {
+        /** As many companies may be in a ROOM. */
+        private static final int COMPANIES = 32;
+
+        // WISHES hang on the ROOM and who is in it alone: MET by GUEST, ROOM and company is found once
+        final int[] known = new int[MOST_GUESTS * MOST_ROOMS * COMPANIES];
         int number = NONE;
         int met = NONE;
         int levels = 0;
@@ -1502,6 +1508,7 @@ public final class PinInn {
             number = NONE;
             met = NONE;
             levels = 0;
+            Arrays.fill(known, NONE);
             int most = house.wishesOfAll();
             walk.start(house, house.stoveRoom);
             for (int i = 0; i < MOST_STATES && walk.advance(house); i++) {
@@ -1516,11 +1523,29 @@ public final class PinInn {
         }
 
         private void compare(House house, Walk walk) {
-            int here = house.metByAll(walk.sits);
+            int here = 0;
+            for (int g = 0; g < house.guests; g++) {
+                here += metBy(g, house, walk.sits);
+            }
             if (here > met) {
                 met = here;
                 number = house.asNumber(walk.sits);
             }
+        }
+
+        private int metBy(int guest, House house, int[] sits) {
+            int room = sits[guest];
+            int company = 0;
+            for (int g = 0; g < house.guests; g++) {
+                if (sits[g] == room) {
+                    company += 1 << g;
+                }
+            }
+            int at = (guest * MOST_ROOMS + room) * COMPANIES + company;
+            if (known[at] == NONE) {
+                known[at] = house.wishes[guest].holding(house, guest, sits);
+            }
+            return known[at];
         }
     }
 

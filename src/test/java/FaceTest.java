@@ -104,8 +104,9 @@ public final class FaceTest {
         for (String sign : new String[] {"->", "::", "@", "Exact(", "[][][]"}) {
             Inn.due("no " + sign, code.contains(sign), false);
         }
-        Inn.due("one import", code.split("\\bimport\\b").length - 1, 1);
-        Inn.due("the import", code.contains("import java.util.NoSuchElementException;"), true);
+        Inn.due("two imports", code.split("\\bimport\\b").length - 1, 2);
+        Inn.due("an import", code.contains("import java.util.NoSuchElementException;"), true);
+        Inn.due("an import", code.contains("import java.util.Arrays;"), true);
         Matcher system = Pattern.compile("\\bSystem\\.(\\w+)").matcher(code);
         while (system.find()) {
             Inn.due("System." + system.group(1), system.group(1).equals("arraycopy"), true);

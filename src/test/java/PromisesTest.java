@@ -188,7 +188,8 @@ public final class PromisesTest {
             "stove 1000 in 0", "stove 9 in 1", "stove 9 in", "snow 1 5", "snow 0 1000", "snow 0", "bound 100000",
             "bound 000000", "bound 99999 9", "slide 100000", "slide", "west 1", "south 1", "west", "west 0 0",
             "bound 5;room 1 1 1;guest 3 in 2", "bound 5;bound 123456;x", "bound 5,bound 6", "bound 5\u0000",
-            "\u00e9", "want alone", "at 3 0 to 0", "room 1 1 1;room 11 1 1", "bound 5 bound 6"};
+            "\u00e9", "want alone", "at 3 0 to 0", "room 1 1 1;room 11 1 1", "bound 5 bound 6", "rooma 1 1 1", "roomz 1 1 1",
+            "room{1 1 1", "room`1 1 1", "bound 5/", "bound 5:"};
         int[] faults = {0, 4, 5, 7, 5, 5, 9, 9,
             11, 0, 0, 11, 12, 0, 11,
             6, 6, 11, 8, 8, 6,
@@ -196,7 +197,8 @@ public final class PromisesTest {
             6, 11, 10, 5, 7, 6, 6,
             6, 12, 6, 5, 5, 6, 4, 7,
             30, 14, 7, 7,
-            0, 0, 0, 16, 8};
+            0, 0, 0, 16, 8, 0, 0,
+            4, 4, 7, 7};
         for (int i = 0; i < texts.length; i++) {
             wrongHouse(inn, texts[i], faults[i]);
         }
@@ -289,8 +291,9 @@ public final class PromisesTest {
         due("6: book", Inn.book(inn, "at 0 1 to 0;at 0 0 to 1; at 999 1 to 1"), 3);
         due("6: 20 LINES", Inn.book(inn, times("at 5 0 to 0", 20)), 20);
         String[] texts = {times("at 5 0 to 0", 21), "at 5 0 to 0;at 4 0 to 0", "at 1000 0 to 0", "at 5 2 to 0", "at 5 0 to 2",
-            "at 5 0 in 0", "at 5 0", "at", "5 0 to 0", "at 5 0 to 0;", "at 5 0 to 0 0", "at x", "at 5 0to0;at 005 1to 00001;at 4"};
-        int[] faults = {240, 15, 3, 5, 10, 7, 6, 2, 0, 12, 12, 3, 30};
+            "at 5 0 in 0", "at 5 0", "at", "5 0 to 0", "at 5 0 to 0;", "at 5 0 to 0 0", "at x", "at 5 0to0;at 005 1to 00001;at 4",
+            "at 5", "at 5 1 to"};
+        int[] faults = {240, 15, 3, 5, 10, 7, 6, 2, 0, 12, 12, 3, 30, 4, 9};
         for (int i = 0; i < texts.length; i++) {
             String text = texts[i];
             dueThrow("6: book \"" + text + "\"", ARGUMENT, () -> Inn.book(inn, text));
@@ -441,6 +444,9 @@ public final class PromisesTest {
         for (int i = 0; i < wishes.length; i++) {
             due("15: " + wishes[i], metBy(inn, wishes[i]), want[i]);
         }
+        String open = "stove and alone or stove and (";
+        due("15: as much open at once as may be", metBy(inn, open.repeat(6) + "alone or stove and 1 < 1 + 1" + ")".repeat(6)), 1);
+        due("15: as much open at once as may be", metBy(inn, open.repeat(6) + "alone or stove and 2 < 1 + 1" + ")".repeat(6)), 0);
         Inn.wishes(inn, 0, "want stove;want alone;want with 1");
         Inn.wishes(inn, 1, "want stove;want with 4");
         due("15: met(0)", inn.met(0), 2);
@@ -675,6 +681,9 @@ public final class PromisesTest {
         Inn.house(inn, "bound 100");
         due("22: 300 does", inn.bucket(false), 300);
         due("22: the least ROOM", inn.bucket(true), 6);
+        PinInn little = Inn.of("room 0 1 1;south 0;room 0 1 1;guest 41 in 1;bound 40");
+        due("22: 1 by Y", little.bucket(false), 1);
+        due("22: the first ROOM", little.bucket(true), 0);
         PinInn worst = Inn.of("room 1 0 1;trunk 0 to 50 in 0;room 1 0 1;west 1;bound 20");
         due("22: LOW and HIGH", worst.bucket(false), NONE);
         Inn.house(worst, "bound 30");
@@ -900,6 +909,17 @@ public final class PromisesTest {
         due("34: one IMAGE, the latest", all(inn).equals(later), true);
         Inn.house(inn, "guest 5 in 1");
         due("35: new GUESTS have no WISHES", inn.count(11), 0);
+        PinInn fewer = Inn.of("room 0 0 4;guest 1 in 0");
+        fewer.image();
+        Inn.house(fewer, "room 0 0 4;guest 2 in 1;snow 1 50");
+        Inn.wishes(fewer, 1, "want stove");
+        due("35: with more", fewer.bells(9, NONE), 1);
+        fewer.back();
+        dueThrow("35: no such SEATING any more", ARGUMENT, () -> fewer.bells(9, NONE));
+        dueThrow("35: no such ROOM any more", ARGUMENT, () -> fewer.bells(1, NONE));
+        Inn.house(fewer, "room 0 0 1;guest 2 in 0");
+        due("35: a new ROOM", fewer.room(1, 3), 0);
+        due("35: a new GUEST", fewer.met(NONE), 0);
     }
 
     private static void spoil(PinInn inn) {
