@@ -180,7 +180,6 @@ public final class PromisesTest {
     }
 
     private static void houseFaults() {
-        PinInn inn = Inn.of("room 0 0 1");
         String[] texts = {"x", "room", "room ", "room  5", "room -1 0 1", "room 10 0 1", "room 0 0 0", "room 0 0 5",
             "room 1 1 1 1", "roomx 1 1 1", "Room 1 1 1", "room 1 1 1;", "room 1 1 1; ", ";room 1 1 1", "room 1 1 1;;",
             "guest 0 in 0", "guest 201 in 0", "guest 9 in 1", "guest 9 inn 0", "guest 9 0", "guest in 0",
@@ -200,7 +199,7 @@ public final class PromisesTest {
             0, 0, 0, 16, 8, 0, 0,
             4, 4, 7, 7};
         for (int i = 0; i < texts.length; i++) {
-            wrongHouse(inn, texts[i], faults[i]);
+            wrongHouse(Inn.of("room 0 0 1"), texts[i], faults[i]);
         }
         wrongHouse(new PinInn(), "west 0;room 0 0 1", 5);
         wrongHouse(new PinInn(), "guest 5 in 0", 11);
