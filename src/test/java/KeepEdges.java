@@ -266,10 +266,17 @@ final class KeepEdges extends Edges {
         Inn.house(nothing, "room 1 1 1;guest 1 in 0;trunk 1 to 2 in 0");
         due("of nothing", nothing.back(), true);
         due("of nothing", look(nothing).equals(look(new PinInn())), true);
+        Inn.house(nothing, lines("room 1 1 1", 8));
+        Inn.house(nothing, lines("guest 1 in 0", 5) + ";" + lines("trunk 1 to 2 in 0", 6));
+        Inn.wishes(nothing, 0, "want alone");
+        nothing.back();
         Inn.house(nothing, "room 2 3 4;guest 7 in 0;trunk 3 to 4 in 0");
         due("told anew", nothing.room(0, 2), 4);
         due("told anew", nothing.moment(true, 2), 3 * 7 + 3 * 4);
         due("no WISHES of him who is gone", nothing.count(11), 0);
+        due("ROOMS as many as may be", Inn.house(nothing, lines("room 1 1 1", 7)), 2);
+        due("GUESTS as many as may be", Inn.house(nothing, lines("guest 1 in 7", 4)), 3);
+        due("TRUNKS as many as may be", Inn.house(nothing, lines("trunk 1 to 2 in 7", 5)), 4);
     }
 
     private static void back() {

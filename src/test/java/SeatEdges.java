@@ -54,11 +54,72 @@ final class SeatEdges extends Edges {
         // five cannot all be in ROOM 7: GUESTS 1 and 3 may be in 6 too, and GUEST 1 is the first who may
         due("all 40", most.seats(1), 40);
         due("the first", most.seats(0), 076767);
+        company();
+        String[] axes = {"room 1 0 1;west 0;room 0 0 1;room 1 0 1", "room 0 1 1;south 0;room 0 0 1;room 0 1 1"};
+        for (String axis : axes) {
+            allSides(Inn.of(axis, "guest 10 in 1;bound 10"));
+        }
         PinInn worst = Inn.of(SIDES, "trunk 0 to 5 in 0;guest 10 in 0;bound 10");
         Inn.wishes(worst, 0, "want x > 9");
         due("he would have it in the east, but not at the worst", worst.seats(0), 1);
         Inn.house(worst, "bound 15");
         due("at the worst just BOUND", worst.seats(0), 0);
+    }
+
+    /** ROOM 0 is below the pin, 1 on it, 2 above it; SEATS are asked for again and again as things change. */
+    private static void allSides(PinInn inn) {
+        due("all three are LEVEL", inn.seats(2), 3);
+        Inn.house(inn, "snow 2 1");
+        due("SNOW above: not he above it", inn.seats(2), 2);
+        due("the first is below", inn.seats(0), 0);
+        Inn.house(inn, "snow 2 0;stove 1 in 0");
+        due("THE STOVE below: not he below it", inn.seats(2), 2);
+        due("the first is on the pin", inn.seats(0), 1);
+        Inn.house(inn, "stove 0 in 0;trunk 0 to 1 in 2");
+        due("a TRUNK above, at the worst: HIGH", inn.seats(2), 2);
+        due("the first is below", inn.seats(0), 0);
+        due("woken above", wokenFrom(inn, 2), 1);
+        Inn.house(inn, "bound 11;trunk 0 to 2 in 0");
+        due("a TRUNK below, at the worst: LOW", inn.seats(2), 2);
+        due("the first is on the pin", inn.seats(0), 1);
+        due("woken below", wokenFrom(inn, 0), 1);
+        due("no bell from the pin below", bellsFrom(inn, 1, 0), NONE);
+        due("a bell from the pin above", bellsFrom(inn, 1, 2), 1);
+        Inn.house(inn, "bound 12");
+        due("just BOUND", inn.seats(2), 3);
+        due("a bell from the pin below", bellsFrom(inn, 1, 0), 1);
+    }
+
+    private static int wokenFrom(PinInn inn, int room) {
+        inn.go(0, room);
+        return inn.wake(false);
+    }
+
+    private static int bellsFrom(PinInn inn, int room, int goal) {
+        inn.go(0, room);
+        return inn.bells(goal, NONE);
+    }
+
+    /** WISHES that hang on who is in the ROOM, by each SEATING anew. */
+    private static void company() {
+        PinInn inn = Inn.of("room 0 0 4;room 0 0 4;guest 1 in 0;guest 1 in 0;guest 1 in 0");
+        Inn.wishes(inn, 0, "want with 1 and not with 2");
+        due("GUEST 2 apart", inn.seats(0), 0100);
+        Inn.wishes(inn, 0, "want with 2 and not with 1");
+        due("GUEST 1 apart", inn.seats(0), 0010);
+        Inn.wishes(inn, 0, "want alone");
+        due("both apart", inn.seats(0), 0110);
+        Inn.wishes(inn, 0, "want heads > 1 and heads < 3");
+        due("one apart, the last first", inn.seats(0), 0100);
+        Inn.wishes(inn, 2, "want with 0;want not with 1");
+        due("GUESTS 0 and 2", inn.seats(0), 0010);
+        due("MET", inn.seats(1), 3);
+        Inn.wishes(inn, 1, "want with 0;want with 2;want room > 0");
+        due("GUEST 1 in ROOM 1, or all three: the first", inn.seats(0), 0010);
+        due("MET", inn.seats(1), 4);
+        Inn.wishes(inn, 1, "want with 0;want with 2;want room > 0;want heads > 2");
+        due("all three in ROOM 1", inn.seats(0), 0111);
+        due("MET", inn.seats(1), 5);
     }
 
     private static void firstOfSeveral() {
@@ -148,7 +209,12 @@ final class SeatEdges extends Edges {
         PinInn all = Inn.of("room 0 0 4;room 0 0 4;room 0 0 4", lines("guest 1 in 0", 4), "guest 1 in 1");
         due("one", all.bells(010001, NONE), 1);
         due("all five, once each", all.bells(021221, NONE), 5);
-        // 100 east and 100 west must change; the only other place is far out, LEVEL when he of 10 stands against it
+        all.go(0, 1);
+        all.go(4, 0);
+        due("to ROOM 0 for all is no SEATING, to 1 for one is", all.bells(1, NONE), 0);
+        PinInn zero = Inn.of("room 0 0 4;room 0 0 4;guest 1 in 1;guest 1 in 0");
+        due("to ROOM 0 for all", zero.bells(0, NONE), 1);
+        due("to ROOM 0 for all", zero.bells(0, 0), 0);
         PinInn round = Inn.of("room 1 0 1;room 1 0 1;west 1;room 2 0 1;room 0 0 1;guest 10 in 0;guest 10 in 1;bound 10");
         due("over the pin: 3", round.bells(001, NONE), 3);
         PinInn none = Inn.of("room 1 0 1;room 1 0 1;west 1;room 2 0 1;guest 10 in 0;guest 10 in 1;bound 10");
@@ -162,6 +228,9 @@ final class SeatEdges extends Edges {
         for (int k = 0; k < 5; k++) {
             due("by GUEST, bell " + k, inn.bells(021221, k), way[k]);
         }
+        PinInn eight = Inn.of(lines("room 0 0 4", 8), "guest 1 in 0;guest 1 in 0;guest 1 in 7");
+        due("GUEST 1 alone has to go", eight.bells(0710, 0), 8 + 1);
+        due("GUEST 2 alone has to go", eight.bells(0600, 0), 16 + 6);
         PinInn change = Inn.of("room 0 0 1;room 0 0 1;room 0 0 1;room 0 0 1;guest 1 in 0;guest 1 in 1");
         int[] first = {2, 8, 1};
         for (int k = 0; k < 3; k++) {

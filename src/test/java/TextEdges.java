@@ -430,6 +430,13 @@ final class TextEdges extends Edges {
         for (String line : HOUSE_LINES) {
             wrongAfter(THINGS, line + ";^x", line + ";^", line + ";bound 5;^");
         }
+        PinInn most = Inn.of("room 1 1 1");
+        wrongHouse(most, lines("room 1 1 1", 7) + ";^x");
+        wrongHouse(most, lines("guest 1 in 0", 5) + ";^x");
+        wrongHouse(most, lines("trunk 1 to 2 in 0", 6) + ";^x");
+        due("as many as may be are still free", Inn.house(most, lines("room 1 1 1", 7)), 2);
+        due("GUESTS", Inn.house(most, lines("guest 1 in 7", 5)), 3);
+        due("TRUNKS", Inn.house(most, lines("trunk 1 to 2 in 7", 6)), 4);
         PinInn inn = Inn.of(THINGS);
         Inn.wishes(inn, 0, "want alone");
         Inn.book(inn, "at 5 0 to 1");

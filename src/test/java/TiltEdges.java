@@ -157,6 +157,9 @@ final class TiltEdges extends Edges {
         due("the first", weights.unnoticed(true), 00102);
         PinInn order = Inn.of("room 1 0 1;room 2 0 1;guest 3 in 0;guest 5 in 0;guest 5 in 1");
         due("GUESTS 1 and 2 alone", order.unnoticed(true), 01210);
+        PinInn pin = Inn.of("room 0 0 1;room 1 0 1;room 1 0 1;west 2;guest 5 in 1;guest 5 in 2");
+        due("both to the pin, or they change", pin.unnoticed(false), 2);
+        due("ROOM 0 for both is the first", pin.unnoticed(true), 00100);
         PinInn most = Inn.of(lines("room 1 1 1", 8), lines("guest 1 in 0", 5));
         due("10 pairs, 63 each", most.unnoticed(false), 630);
         due("the first", most.unnoticed(true), 00101);
@@ -292,6 +295,10 @@ final class TiltEdges extends Edges {
         due("TRUNK 0, the others LEAST", inn.weighed(0, net - 2 * 7 + 3 * 2 + 3 * 12), 12);
         due("TRUNK 3, the others LEAST", inn.weighed(3, net + 3 * 5 - 2 * 7 + 3 * 6), 6);
         due("TRUNK 1, in the west", inn.weighed(1, net + 3 * 5 + 3 * 2 - 2 * 9), 9);
+        PinInn six = Inn.of("room 1 0 1;" + lines("trunk 3 to 9 in 0", 6));
+        for (int t = 0; t < 6; t++) {
+            due("TRUNK " + t + " of 6", six.weighed(t, 5 * 3 + 4 + t % 3), 4 + t % 3);
+        }
         inn.weigh(0, 15);
         due("TRUNK 0 is as heavy as it weighs now", inn.weighed(3, net + 3 * 15 - 2 * 7 + 3 * 6), 6);
         due("nothing stays", inn.trunk(3, 0), 2);

@@ -321,6 +321,9 @@ final class WishEdges extends Edges {
         holds(inn, 0, "(((((not alone))))) or (((((not with 4)))))", true);
         holds(inn, 0, "(not (not (not alone))) and not (not (not (with 4)))", false);
         holds(inn, 0, "((((((with 4 or alone)))))) and ((((((x < 10 and y > 8))))))", true);
+        String open = "alone and with 4 or alone and (";
+        holds(inn, 0, open.repeat(6) + "with 4 or alone and 1 < 1 + 1" + ")".repeat(6), true);
+        holds(inn, 0, open.repeat(6) + "with 4 or alone and 2 < 1 + 1" + ")".repeat(6), false);
         StringBuilder aside = new StringBuilder("(alone)");
         for (int i = 0; i < 20; i++) {
             aside.append(i % 2 == 0 ? " and not with 4" : " and (alone)");
