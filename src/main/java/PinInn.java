@@ -567,10 +567,6 @@ public final class PinInn {
             return kind != NO_MORE;
         }
 
-        boolean isNumber() {
-            return kind == NUMBER;
-        }
-
         boolean isSign(char sign) {
             return kind == SIGN && bytes[begin] == sign;
         }
@@ -920,29 +916,25 @@ public final class PinInn {
         }
 
         private boolean readSum(Tape tape) {
-            if (!readPart(tape)) {
-                return false;
-            }
-            for (int i = 0; i < MOST_BYTES && tape.isSign('+'); i++) {
-                tape.lookAtNext();
-                if (!readPart(tape)) {
+            for (int parts = 0; parts < MOST_BYTES; parts++) {
+                int code = partNamed(tape);
+                if (code != NONE) {
+                    tape.lookAtNext();
+                } else if (tape.takeNumber(0, MOST_NUMBER)) {
+                    code = tape.taken;
+                } else {
                     return false;
                 }
-                put(ADD);
+                put(code);
+                if (parts > 0) {
+                    put(ADD);
+                }
+                if (!tape.isSign('+')) {
+                    return true;
+                }
+                tape.lookAtNext();
             }
-            return true;
-        }
-
-        private boolean readPart(Tape tape) {
-            if (tape.isNumber()) {
-                return tape.takeNumber(0, MOST_NUMBER) && put(tape.taken);
-            }
-            int code = partNamed(tape);
-            if (code == NONE) {
-                return tape.refuse();
-            }
-            tape.lookAtNext();
-            return put(code);
+            return tape.refuse();
         }
 
         private static int partNamed(Tape tape) {
